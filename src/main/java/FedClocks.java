@@ -1089,7 +1089,7 @@ public final class FedClocks {
         // Which can be looked at, and what they are worth: the same for all PERSONS, mostly.
         private final boolean[] open = new boolean[CLOCKS];
         private final int[] worths = new int[2 * CLOCKS];
-        private final boolean[] weighed = new boolean[2 * CLOCKS];
+        private final int[] weighed = new int[2 * CLOCKS];
 
         Hours(Plan plan) {
             this.plan = plan;
@@ -1111,7 +1111,7 @@ public final class FedClocks {
 
         /** One HOUR goes by. */
         void pass(int[] s) {
-            open(s);
+            prepare(s);
             for (int p = 0; p < plan.persons; p++) {
                 walk(s, p);
                 int c = s[BLIND + p] == 1 ? NONE : choice(s, p);
@@ -1126,9 +1126,9 @@ public final class FedClocks {
             s[ALL_STRIKES] += strikes;
         }
 
-        private void open(int[] s) {
+        private void prepare(int[] s) {
             Arrays.fill(ate, 0);
-            Arrays.fill(weighed, false);
+            Arrays.fill(weighed, 0);
             for (int c = 0; c < s[COUNT]; c++) {
                 open[c] = s[LIVES + c] == 1 && !isStill(s, c);
             }
@@ -1164,7 +1164,7 @@ public final class FedClocks {
 
         private int weigh(int[] s, int c, int p, int apart) {
             int at = apart * CLOCKS + c;
-            if (!weighed[at] || taste.personal) {
+            if (weighed[at] == 0 || taste.personal) {
                 int[] letters = taste.letters;
                 letters[0] = s[FAT + c];
                 letters[1] = s[HUNGER + c];
@@ -1173,14 +1173,14 @@ public final class FedClocks {
                 letters[4] = apart;
                 letters[5] = p;
                 worths[at] = taste.worth();
-                weighed[at] = true;
+                weighed[at] = 1;
             }
             return worths[at];
         }
 
         /** At which one a PERSON looks in the next HOUR; the row is where it goes by then. */
         int look(int[] s, int p) {
-            open(s);
+            prepare(s);
             walk(s, p);
             return s[BLIND + p] == 1 ? NONE : choice(s, p);
         }
