@@ -24,8 +24,8 @@ public final class FedClocks {
     private static final int LURES = 4;
 
     // All that an ACT can change is one row of numbers, so that keeping it, undoing to it and
-    // trying something apart are one copy each. The first of each CLOCK's numbers stand in the
-    // order in which they are asked for.
+    // trying something apart are one copy each. What of a CLOCK can be asked for stands in the
+    // order in which it is asked for; of each number the ten CLOCKS', then the six PERSONS'.
     private static final int ROOM = 0;
     private static final int HUNGER = 10;
     private static final int FAT = 20;
@@ -826,6 +826,7 @@ public final class FedClocks {
         final Tape tape;
         final int[] code = new int[TAPE];
         int length = 0;
+        // Whether it asks who looks: if not, a CLOCK is worth the same to all.
         boolean personal = false;
 
         TasteReader(Tape tape) {
@@ -915,8 +916,9 @@ public final class FedClocks {
             if (compare != '=' && compare != '<' && compare != '>') {
                 return false;
             }
+            int sameOrLess = compare == '=' ? Taste.SAME : Taste.LESS;
             tape.at++;
-            return sum(depth) && emit(compare == '=' ? Taste.SAME : compare == '<' ? Taste.LESS : Taste.MORE, 0);
+            return sum(depth) && emit(compare == '>' ? Taste.MORE : sameOrLess, 0);
         }
 
         private boolean deeperUnit(int sign, int depth) {

@@ -100,6 +100,16 @@ public final class PromisesTest {
         due("feed of two at 239", x.feed(0x72720000, 0, 0, 0, 0), -1);
         due("bytes still", x.count(4), 239);
         due("feed of one at 239", x.feed(0, 0x72, 0, 0, 0), 240);
+        for (int one = 0; one < 5; one++)
+            for (int other = 0; other < 5; other++) {
+                int[] w = new int[5];
+                w[one] |= 0x72000000;
+                w[other] |= 0x70;
+                x.end(239);
+                due("two beyond it", x.feed(w[0], w[1], w[2], w[3], w[4]), -1);
+                x.end(238);
+                due("two up to it", x.feed(w[0], w[1], w[2], w[3], w[4]), 240);
+            }
     }
 
     private static void end() {
