@@ -155,7 +155,7 @@ public final class FedClocks {
     }
 
     public int sees(int room) {
-        return isRoom(room) ? plan.other[room] : NONE;
+        return plan.seenFrom(room);
     }
 
     public boolean taste(int taste) {
@@ -458,9 +458,10 @@ public final class FedClocks {
         if (!isPerson(person) || !isRoom(room)) {
             return NONE;
         }
+        int other = plan.seenFrom(room);
         int bits = 0;
         for (int c = 0; c < now[COUNT]; c++) {
-            boolean there = now[ROOM + c] == room || now[ROOM + c] == plan.other[room];
+            boolean there = now[ROOM + c] == room || now[ROOM + c] == other;
             if (there && now[LIVES + c] == 1 && !Hours.isStill(now, c)) {
                 bits |= 1 << c;
             }
@@ -643,6 +644,10 @@ public final class FedClocks {
             System.arraycopy(from.wayLength, 0, wayLength, 0, PERSONS);
             rooms = from.rooms;
             persons = from.persons;
+        }
+
+        int seenFrom(int room) {
+            return room >= 0 && room < rooms ? other[room] : NONE;
         }
     }
 
@@ -1147,7 +1152,7 @@ public final class FedClocks {
         /** At which one a PERSON, where it is, looks; NONE at nothing. */
         private int choice(int[] s, int p) {
             int here = s[PLACE + p];
-            int there = plan.other[here];
+            int there = plan.seenFrom(here);
             int best = NONE;
             int most = 0;
             for (int c = 0; c < s[COUNT]; c++) {
@@ -1695,7 +1700,7 @@ public final class FedClocks {
 
         private int roomOf(int row, int place) {
             int unit = power(plan.rooms, place);
-            return unit > 0 ? row / unit % plan.rooms : 0;
+            return unit > 0 && plan.rooms > 0 ? row / unit % plan.rooms : 0;
         }
 
         private int lastHeard() {
