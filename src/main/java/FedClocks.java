@@ -1578,9 +1578,14 @@ public final class FedClocks {
 
         int fewestLookers(int[] now, int n) {
             for (int size = 0; size <= plan.persons; size++) {
+                int rows = power(plan.rooms, size);
                 for (int set = 0; set < 1 << plan.persons; set++) {
-                    if (Integer.bitCount(set) == size && !hasBlind(now, set) && hasRow(now, set, n)) {
-                        return set;
+                    boolean tried = Integer.bitCount(set) == size && !hasBlind(now, set);
+                    for (int row = 0; tried && row < rows; row++) {
+                        sendSet(now, set, row);
+                        if (lasts(n)) {
+                            return set;
+                        }
                     }
                 }
             }
@@ -1591,17 +1596,6 @@ public final class FedClocks {
         private boolean hasBlind(int[] now, int set) {
             for (int p = 0; p < plan.persons; p++) {
                 if ((set & 1 << p) != 0 && now[BLIND + p] == 1) {
-                    return true;
-                }
-            }
-            return false;
-        }
-
-        private boolean hasRow(int[] now, int set, int n) {
-            int rows = power(plan.rooms, Integer.bitCount(set));
-            for (int row = 0; row < rows; row++) {
-                sendSet(now, set, row);
-                if (lasts(n)) {
                     return true;
                 }
             }

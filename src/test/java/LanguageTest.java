@@ -149,12 +149,12 @@ public final class LanguageTest {
             return null;
         }
 
-        /** How many methods stand open at once at most, without those that call one another. */
+        /** How many methods stand open at once at most, without those that call one another; the eighth may be the library's. */
         void depths() {
             for (String m : calls.keySet()) {
                 if (!m.startsWith("FedClocks.") || !face.contains(m.substring(10).replaceAll("[0-9]+$", ""))) continue;
                 List<String> way = deepest(m, new ArrayList<>());
-                if (way.size() > 8 && way.stream().noneMatch(s -> s.startsWith("TasteReader."))) fault(m + " goes deep: " + way);
+                if (way.size() > 7 && way.stream().noneMatch(s -> s.startsWith("TasteReader."))) fault(m + " goes deep: " + way);
             }
         }
 
