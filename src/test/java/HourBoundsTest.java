@@ -547,7 +547,7 @@ public final class HourBoundsTest {
     /** All ten places that CLOCKS can have, each by itself. */
     private static void tenClocks() {
         Say.inTerms(2, ", and, if there are fewer than 10 CLOCKS, one is born");
-        FedClocks x = Say.house("r;ch0f94m70t3;ch0f99m70;ch0f98m70;ch0f97m70;ch0f96m70;ch0f95m70;pe1");
+        FedClocks x = Say.house("r;ch0f94m70t3;ch0f99m70;ch0f98m70;ch0f97m70t3;ch0f96m70;ch0f95m70;pe1");
         x.go(1);
         int[] fats = {47, 49, 49, 48, 48, 47, 47, 49, 49, 48};
         for (int c = 0; c < 10; c++) {
@@ -571,7 +571,8 @@ public final class HourBoundsTest {
         Say.due("middle()", x.middle(), 13);
         Say.due("seen(0, 0)", x.seen(0, 0), 1023);
         Say.due("how many live", x.count(8), 10);
-        Say.due("of KIND 0", x.kinds(0, 0), 10);
+        for (int kind = 0; kind <= 3; kind++) Say.due("of KIND " + kind, x.kinds(kind, 0), kind == 0 ? 10 : 0);
+        Say.due("all live, whichever is PAINTED", x.spared(1, 0) * 100 + x.spared(1, 1), 10);
         Say.due("nobody is STILL", x.still(), 0);
         // a LURE of the last one counts for the last one alone: FAT 48, the thinnest 47
         Say.due("RESTS of 9 and 0: 9 has it by LURE 1", x.lures(9, 0, 1, 5, -1), 1);
