@@ -939,7 +939,7 @@ public final class AheadBoundsTest {
         x.blind(0, true);
         Say.due("image()", x.image(), 1);
         Say.due("it is no ACT", x.count(10), 4);
-        String was = Say.all(x);
+        String was = Say.told(x);
         x.hang(0, 1);
         x.face(0, 1);
         x.wind(0, 20);
@@ -949,7 +949,7 @@ public final class AheadBoundsTest {
         x.undo();
         x.crowds(7, 3);
         Say.due("back()", x.back(), 1);
-        Say.due("CLOCKS, PERSONS, HOUR, ALL", told(x).equals(told(was)), true);
+        Say.due("CLOCKS, PERSONS, HOUR, ALL", Say.told(x).equals(was), true);
         x.go(3);
         Say.due("image() instead", x.image(), 4);
         x.go(1);
@@ -957,17 +957,6 @@ public final class AheadBoundsTest {
         Say.due("back() again", x.back(), 4);
         Say.inPromise(43, "NONE: no HOUSE.");
         Say.due("without a HOUSE", new FedClocks().image(), -1);
-    }
-
-    private static String told(FedClocks x) {
-        return told(Say.all(x));
-    }
-
-    /** Of all that may be asked that of CLOCKS and PERSONS. */
-    private static String told(String all) {
-        int from = 0;
-        for (int i = 0; i < 14; i++) from = all.indexOf(' ', from) + 1;
-        return all.substring(from, all.lastIndexOf(';'));
     }
 
     private static void back() {

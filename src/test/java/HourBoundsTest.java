@@ -728,17 +728,18 @@ public final class HourBoundsTest {
 
     private static void putBy() {
         Say.inTerms(2, "Put by are the latest 60 HOURS: all that was eaten, all strikes, how many STARVED, how many were born.");
-        FedClocks x = Say.house("r;ch0m99f1t99;pe1;pb1");
-        for (int hour = 1; hour <= 70; hour++) {
-            // every seventh HOUR nothing is eaten
-            x.blind(0, hour % 7 == 0);
-            x.go(1);
-            Say.due("HOURS put by", x.count(11), Math.min(60, hour));
-            if (hour >= 57)
-                for (int i = 0; i < Math.min(60, hour); i++) Say.due("eaten in HOUR " + (hour - i), x.log(i, 0), (hour - i) % 7 == 0 ? 0 : 1);
-            if (hour >= 57) Say.due("no more than that", x.log(Math.min(60, hour), 0), -1);
+        for (int last = 1; last <= 70; last++) {
+            FedClocks x = Say.house("r;ch0m99f1t99;pe1;pb1");
+            for (int hour = 1; hour <= last; hour++) {
+                // every seventh HOUR nothing is eaten
+                x.blind(0, hour % 7 == 0);
+                x.go(1);
+                Say.due("HOURS put by", x.count(11), Math.min(60, hour));
+            }
+            for (int i = 0; i < Math.min(60, last); i++) Say.due("eaten in HOUR " + (last - i), x.log(i, 0), (last - i) % 7 == 0 ? 0 : 1);
+            Say.due("no more than that", x.log(Math.min(60, last), 0), -1);
         }
-        x = Say.house("r;cf5t2h0;ch9f9;ch9f9;cf99m90h0;pe5");
+        FedClocks x = Say.house("r;cf5t2h0;ch9f9;ch9f9;cf99m90h0;pe5");
         x.paint(3, true);
         x.go(1);
         int[] want = {5, 2, 2, 1};
@@ -784,46 +785,47 @@ public final class HourBoundsTest {
         Say.due("eaten", x.count(12), 7);
     }
 
+    private static final int SORTS_OF_ACTS = 8;
+
+    /** An object with the first n of eight ACTS, each of another sort. */
+    private static FedClocks oneOfEach(int n) {
+        FedClocks x = Say.house("r;r;cf20;cf30;p");
+        x.crowd(99);
+        for (int i = 0; i < n; i++) {
+            switch (i) {
+                case 0: Say.due("send", x.send(0, 1), 1); break;
+                case 1: Say.due("blind", x.blind(0, true), 2); break;
+                case 2: Say.due("hang", x.hang(0, 1), 3); break;
+                case 3: Say.due("face", x.face(0, 1), 4); break;
+                case 4: Say.due("wind", x.wind(0, 20), 40); break;
+                case 5: Say.due("paint", x.paint(0, true), 6); break;
+                case 6: Say.due("go", x.go(1), 1); break;
+                default: Say.due("crowds", x.crowds(1, 5), 2); break;
+            }
+            Say.due("ACTS", x.count(10), i + 1);
+        }
+        return x;
+    }
+
     private static void acts() {
         Say.inTerms(2, "All these, and each HOUR, are ACTS: the latest 40 can be UNDONE one by one (with what is put by of an HOUR).");
-        FedClocks x = Say.house("r;r;cf20;cf30;p");
-        String[] was = new String[10];
-        int n = 0;
-        was[n++] = Say.all(x);
-        Say.due("send", x.send(0, 1), n);
-        was[n++] = Say.all(x);
-        Say.due("blind", x.blind(0, true), n);
-        was[n++] = Say.all(x);
-        Say.due("hang", x.hang(0, 1), n);
-        was[n++] = Say.all(x);
-        Say.due("face", x.face(0, 1), n);
-        was[n++] = Say.all(x);
-        Say.due("wind", x.wind(0, 20), 40);
-        was[n++] = Say.all(x);
-        Say.due("paint", x.paint(0, true), n);
-        was[n++] = Say.all(x);
-        x.go(1);
-        Say.due("an HOUR", x.count(10), n);
-        was[n++] = Say.all(x);
-        x.crowd(99);
-        was[n - 1] = Say.all(x);
-        x.crowds(1, 5);
-        Say.due("an HOUR", x.count(10), n);
-        while (n > 0) {
-            n--;
-            Say.due("undo", x.undo(), n);
-            if (n == 6) x.crowd(0);
-            Say.due("all is as it was ahead of ACT " + n, Say.all(x).equals(was[n]), true);
+        for (int n = 0; n <= SORTS_OF_ACTS; n++) {
+            FedClocks x = oneOfEach(n);
+            String was = Say.all(x);
+            x = oneOfEach(SORTS_OF_ACTS);
+            for (int left = SORTS_OF_ACTS - 1; left >= n; left--) Say.due("undo", x.undo(), left);
+            Say.due("all is as it was ahead of ACT " + n, Say.all(x).equals(was), true);
+            if (n == 0) Say.due("undo of none", x.undo(), -1);
         }
-        Say.due("undo of none", x.undo(), -1);
-        // forty: of each sort
-        x = Say.house("r;r;cf20m99h0;cf30h0;p");
-        for (int i = 1; i <= 45; i++) {
-            Say.due("ACTS", x.hang(0, i % 2), Math.min(40, i));
-            if (i == 5) was[0] = Say.all(x);
-        }
+        // forty of forty-five, the first of them of each sort
+        FedClocks x = oneOfEach(SORTS_OF_ACTS);
+        for (int i = SORTS_OF_ACTS + 1; i <= 45; i++) Say.due("ACTS", x.send(0, i % 2 == 0 ? 1 : -1), Math.min(40, i));
         for (int i = 39; i >= 0; i--) Say.due("undo", x.undo(), i);
-        Say.due("as behind the fifth", Say.all(x).equals(was[0].replaceFirst("^(\\S+ ){14}", Say.all(x).replaceFirst("^((\\S+ ){14}).*$", "$1"))), true);
+        Say.due("undo of none", x.undo(), -1);
+        Say.due("as behind the fifth", Say.told(x).equals(Say.told(oneOfEach(5))), true);
+        x = Say.house("r;r;cf20m99h0;cf30h0;p");
+        for (int i = 1; i <= 45; i++) Say.due("ACTS", x.hang(0, i % 2), Math.min(40, i));
+        for (int i = 39; i >= 0; i--) Say.due("undo", x.undo(), i);
         Say.due("undo of none", x.undo(), -1);
         Say.due("where the fifth hung it", clock(x, 0, 0), 1);
         for (int i = 1; i <= 39; i++) x.wind(1, 1);

@@ -7,7 +7,7 @@ public final class RandomTest {
     private static long calls = 0;
 
     public static void main(String[] args) {
-        int runs = args.length > 0 ? Integer.parseInt(args[0]) : 1500;
+        int runs = args.length > 0 ? Integer.parseInt(args[0]) : 700;
         long seed = args.length > 1 ? Long.parseLong(args[1]) : 1;
         for (int run = 0; run < runs && wrong < 10; run++) new Run(new Random(seed * 1000003 + run), run).all();
         for (int i = 0; i < runs * 4 && wrong < 10; i++) texts(new Random(-seed * 1000003 - i), i);
@@ -147,6 +147,7 @@ public final class RandomTest {
         final FedClocks x = new FedClocks();
         final Model m = new Model();
         final boolean small;
+        int asked = 0;
 
         Run(Random r, int run) {
             this.r = r;
@@ -155,6 +156,7 @@ public final class RandomTest {
         }
 
         void due(String call, long got, long want) {
+            asked++;
             same("run " + run + ": " + call, got, want);
         }
 
@@ -169,8 +171,8 @@ public final class RandomTest {
 
         void all() {
             if (r.nextInt(10) > 0) newHouse();
-            int n = 60 + r.nextInt(60);
-            for (int i = 0; i < n && wrong < 10; i++) one();
+            // an object answers 512 calls; no step asks more than 80
+            while (asked < 430 && wrong < 10) one();
         }
 
         void newHouse() {
@@ -195,40 +197,74 @@ public final class RandomTest {
             return r.nextInt(12) == 0 ? n(-1, 4) : r.nextInt(Math.max(1, m.count(0)));
         }
 
-        void everything() {
+        /** What is so: some of all that may be asked. */
+        void look() {
+            switch (r.nextInt(6)) {
+                case 0: counts(); break;
+                case 1: clock(n(0, Math.max(0, m.count(1) - 1))); break;
+                case 2: clocks(); break;
+                case 3: person(n(0, Math.max(0, m.count(2) - 1))); break;
+                case 4: putBy(); break;
+                default: rest(); break;
+            }
+        }
+
+        void counts() {
             for (int what = -1; what <= 14; what++) due("count(" + what + ")", x.count(what), m.count(what));
-            for (int c = -1; c <= m.count(1); c++)
-                for (int what = -1; what <= 13; what++) {
-                    Integer want = m.clock(c, what);
-                    Integer got;
-                    try {
-                        got = x.clock(c, what);
-                    } catch (NoSuchElementException e) {
-                        got = null;
-                    }
-                    due("clock(" + c + ", " + what + ")", got == null ? Long.MIN_VALUE : got, want == null ? Long.MIN_VALUE : want);
-                }
-            for (int p = -1; p <= m.count(2); p++)
-                for (int what = -1; what <= 5; what++) due("person(" + p + ", " + what + ")", x.person(p, what), m.person(p, what));
-            for (int c = -1; c <= m.count(1); c++) {
+        }
+
+        void clock(int c, int what) {
+            Integer want = m.clock(c, what);
+            Integer got;
+            try {
+                got = x.clock(c, what);
+            } catch (NoSuchElementException e) {
+                got = null;
+            }
+            due("clock(" + c + ", " + what + ")", got == null ? Long.MIN_VALUE : got, want == null ? Long.MIN_VALUE : want);
+        }
+
+        void clock(int c) {
+            for (int what = -1; what <= 13; what++) clock(c, what);
+            due("shows(" + c + ")", x.shows(c), m.shows(c));
+            due("ring(" + c + ")", x.ring(c), m.ring(c));
+            due("deaths(" + c + ")", x.deaths(c), m.deaths(c));
+            for (int what = -1; what <= 2; what++) due("child(" + c + ", " + what + ")", x.child(c, what), m.child(c, what));
+        }
+
+        void clocks() {
+            int[] whats = {r.nextInt(13), r.nextInt(13), r.nextInt(13), 2};
+            for (int c = 0; c < m.count(1); c++) {
+                for (int what : whats) clock(c, what);
                 due("shows(" + c + ")", x.shows(c), m.shows(c));
                 due("ring(" + c + ")", x.ring(c), m.ring(c));
                 due("deaths(" + c + ")", x.deaths(c), m.deaths(c));
-                for (int what = -1; what <= 2; what++) due("child(" + c + ", " + what + ")", x.child(c, what), m.child(c, what));
+                due("child(" + c + ", 1)", x.child(c, 1), m.child(c, 1));
             }
-            for (int i = -1; i <= m.count(11); i++)
+        }
+
+        void person(int p) {
+            for (int what = -1; what <= 5; what++) due("person(" + p + ", " + what + ")", x.person(p, what), m.person(p, what));
+            due("looks(" + p + ")", x.looks(p), m.looks(p));
+            for (int room = -1; room <= m.count(0); room++) due("seen(" + p + ", " + room + ")", x.seen(p, room), m.seen(p, room));
+        }
+
+        void putBy() {
+            int hours = m.count(11);
+            due("count(11)", x.count(11), hours);
+            for (int i : new int[] {-1, 0, 1, r.nextInt(hours + 1), r.nextInt(hours + 1), hours - 1, hours})
                 for (int what = -1; what <= 4; what++) due("log(" + i + ", " + what + ")", x.log(i, what), m.log(i, what));
+        }
+
+        void rest() {
             due("middle()", x.middle(), m.middle());
             due("still()", x.still(), m.still());
-            for (int p = -1; p <= m.count(2); p++) {
-                due("looks(" + p + ")", x.looks(p), m.looks(p));
-                for (int room = -1; room <= m.count(0); room++) due("seen(" + p + ", " + room + ")", x.seen(p, room), m.seen(p, room));
-            }
+            for (int p = 0; p < m.count(2); p++) due("looks(" + p + ")", x.looks(p), m.looks(p));
             for (int room = -1; room <= m.count(0); room++) due("sees(" + room + ")", x.sees(room), m.sees(room));
         }
 
         void one() {
-            switch (r.nextInt(48)) {
+            switch (r.nextInt(52)) {
                 case 0: if (r.nextInt(4) == 0) newHouse(); break;
                 case 1: case 2: tell(taste(r), 1); break;
                 case 3: case 4: { int a = n(-1, Math.max(0, m.count(3) - 1)); due("taste(" + a + ")", x.taste(a) ? 1 : 0, m.taste(a) ? 1 : 0); break; }
@@ -259,7 +295,7 @@ public final class RandomTest {
                 case 43: if (r.nextInt(3) == 0) due("image()", x.image(), m.image()); break;
                 case 44: if (r.nextInt(3) == 0) due("back()", x.back(), m.back()); break;
                 case 45: { int a = n(0, 30); due("end(" + a + ")", x.end(a) ? 1 : 0, m.end(a) ? 1 : 0); break; }
-                default: everything(); break;
+                default: look(); break;
             }
         }
     }

@@ -34,21 +34,31 @@ public final class RefusedTest {
         for (Given given : GIVEN) {
             // one by one, and all of them in one object
             for (Refused r : given.refused) twins(given, List.of(r));
-            for (int from = 0; from < given.refused.size(); from += 60)
-                twins(given, given.refused.subList(from, Math.min(given.refused.size(), from + 60)));
+            for (int from = 0; from < given.refused.size(); from += 40)
+                twins(given, given.refused.subList(from, Math.min(given.refused.size(), from + 40)));
         }
         Say.end();
     }
 
-    private static void twins(Given given, List<Refused> refused) {
+    /** One of two that are alike, with what was asked of it and refused. */
+    private static FedClocks asked(Given given, List<Refused> refused) {
         FedClocks x = given.made.one();
-        FedClocks y = given.made.one();
-        String name = given.name + ": " + refused.get(0).name;
         for (Refused r : refused) Say.due(given.name + ": " + r.name, r.call.of(x), r.due);
+        return x;
+    }
+
+    /** Two new ones for each question, so that none is asked for more than an object is promised to answer. */
+    private static void twins(Given given, List<Refused> refused) {
+        String name = given.name + ": " + refused.get(0).name;
+        FedClocks x = asked(given, refused);
+        FedClocks y = given.made.one();
         Say.due(name + " changed nothing", Say.all(x).equals(Say.all(y)), true);
+        x = asked(given, refused);
+        y = given.made.one();
         Say.due(name + ": crowds", x.crowds(2, 9), y.crowds(2, 9));
-        Say.due(name + ": undo", x.undo() + x.undo(), y.undo() + y.undo());
         Say.due(name + ": undo of all", undone(x).equals(undone(y)), true);
+        x = asked(given, refused);
+        y = given.made.one();
         Say.due(name + ": back", x.back(), y.back());
         Say.due(name + " changed nothing of the IMAGE", Say.all(x).equals(Say.all(y)), true);
         Say.due(name + ": text(1)", x.text(1), y.text(1));
@@ -57,11 +67,8 @@ public final class RefusedTest {
 
     private static String undone(FedClocks x) {
         StringBuilder b = new StringBuilder();
-        for (int n = x.count(10); n > 0; n--) {
-            b.append(x.undo()).append(' ').append(x.count(6)).append(' ').append(x.count(11)).append(' ').append(x.count(12)).append(' ');
-            if (n % 10 == 1) b.append(Say.all(x));
-        }
-        return b.toString();
+        for (int n = x.count(10); n > 0; n--) b.append(x.undo()).append(' ').append(x.count(11)).append(' ');
+        return b.append(Say.told(x)).toString();
     }
 
     private static String tastes(FedClocks x) {

@@ -143,24 +143,34 @@ final class Say {
         }
     }
 
-    // ---- all that one may ask of an object without changing it
+    // ---- what one may ask of an object without changing it: no more than 360 calls in all
 
     static String all(FedClocks x) {
         StringBuilder b = new StringBuilder();
         for (int what = 0; what <= 13; what++) b.append(x.count(what)).append(' ');
-        for (int c = 0; c < x.count(1); c++) {
+        b.append(told(x));
+        for (int room = 0, rooms = x.count(0); room < rooms; room++) b.append(x.sees(room)).append(' ');
+        // of the HOURS put by one number each, and all four of the latest and the oldest
+        for (int i = 0, hours = x.count(11); i < hours; i++)
+            for (int what = 0; what <= 3; what++)
+                if (i < 6 || i > hours - 3 || what == i % 4) b.append(x.log(i, what)).append(' ');
+        for (int n = 1; n <= 4; n++) b.append(x.thief(0, n, NONE)).append(' ');
+        b.append(x.fault(0)).append(' ').append(x.fault(1));
+        return b.toString();
+    }
+
+    /** Of all that what an IMAGE keeps. */
+    static String told(FedClocks x) {
+        StringBuilder b = new StringBuilder();
+        b.append(x.count(6)).append(' ').append(x.count(12)).append(' ').append(x.count(13)).append("; ");
+        for (int c = 0, clocks = x.count(1); c < clocks; c++) {
             for (int what = 0; what <= 12; what++) b.append(clock(x, c, what)).append(' ');
             b.append(x.shows(c)).append(' ').append(x.child(c, 0)).append(' ').append(x.ahead(c, 7)).append("; ");
         }
-        for (int p = 0; p < x.count(2); p++) {
+        for (int p = 0, persons = x.count(2); p < persons; p++) {
             for (int what = 0; what <= 4; what++) b.append(x.person(p, what)).append(' ');
             b.append(x.looks(p)).append("; ");
         }
-        for (int room = 0; room < x.count(0); room++) b.append(x.sees(room)).append(' ');
-        for (int i = 0; i < x.count(11); i++)
-            for (int what = 0; what <= 3; what++) b.append(x.log(i, what)).append(' ');
-        for (int n = 1; n <= 4; n++) b.append(x.thief(0, n, NONE)).append(' ');
-        b.append(x.fault(0)).append(' ').append(x.fault(1));
         return b.toString();
     }
 }

@@ -543,15 +543,16 @@ public final class TextBoundsTest {
         Say.due("r;c;p;p", x.fault(0), -1);
         Say.inPromise(2, "NONE: more than 240.");
         // one byte, whatever it is and wherever it stands
-        x = new FedClocks();
-        Say.add(x, "x".repeat(240));
-        for (int v = 1; v <= 255; v++)
+        for (int v = 1; v <= 255; v++) {
+            x = new FedClocks();
+            Say.add(x, "x".repeat(240));
             for (int shift = 0; shift <= 24; shift += 8) {
                 x.end(239);
                 Say.due(v + " << " + shift + " at 239", x.feed(0, v << shift, 0, 0, 0), 240);
                 Say.due(v + " << " + shift + " at 240", x.feed(v << shift, 0, 0, 0, 0), -1);
                 Say.due("nothing at 240", x.feed(0, 0, 0, 0, 0), 240);
             }
+        }
         for (int free = 0; free <= 21; free++)
             for (int more = 0; more <= 20; more++) {
                 x = new FedClocks();
