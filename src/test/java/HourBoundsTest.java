@@ -245,6 +245,10 @@ public final class HourBoundsTest {
         x.go(1);
         Say.due("looked at by 0 and 2", clock(x, 0, 2), 16);
         Say.due("looked at by 1", clock(x, 1, 2), 13);
+        // from two ROOMS they SEE the same one: what it is worth to the first counts for the first alone
+        x = Say.house("r;rs0;rs0;ch0f50m99;cr2h0f50m99;pe1:1;pe2:2", "y:p");
+        x.go(1);
+        Say.due("both are alike to each", clock(x, 0, 2) * 100 + clock(x, 1, 2), 5350);
         // s: from 0 on, 0 again as it strikes; the other one never does
         int[] since = {0, 1, 0, 1, 0, 1};
         for (int hour = 0; hour < 6; hour++)
